@@ -1,0 +1,77 @@
+/** Counts the answers that are not as due; one for each test. */
+final class Checks {
+    interface Call {
+        long answer();
+    }
+
+    private final String test;
+    private int made = 0;
+    private int wrong = 0;
+
+    Checks(String test) {
+        this.test = test;
+    }
+
+    void due(String what, long due, long answered) {
+        made++;
+        if (due != answered) {
+            wrong++;
+            System.out.println(test + ": " + what + " answered " + answered + ", due is " + due);
+        }
+    }
+
+    void due(String what, boolean due, boolean answered) {
+        due(what, due ? 1 : 0, answered ? 1 : 0);
+    }
+
+    void text(String what, String due, String answered) {
+        made++;
+        if (!due.equals(answered)) {
+            wrong++;
+            System.out.println(test + ": " + what + " answered " + answered + ", due is " + due);
+        }
+    }
+
+    void noState(String what, Call call) {
+        text(what, "throws IllegalStateException", outcome(call));
+    }
+
+    void noIndex(String what, Call call) {
+        text(what, "throws IndexOutOfBoundsException", outcome(call));
+    }
+
+    void noArgument(String what, Call call) {
+        text(what, "throws IllegalArgumentException", outcome(call));
+    }
+
+    void tooMany(String what, Call call) {
+        text(what, "throws UnsupportedOperationException", outcome(call));
+    }
+
+    /** What a call answers or throws, as a text. */
+    static String outcome(Call call) {
+        try {
+            return "" + call.answer();
+        } catch (RuntimeException e) {
+            return "throws " + e.getClass().getSimpleName();
+        }
+    }
+
+    static Call nothing(Runnable call) {
+        return () -> {
+            call.run();
+            return 0;
+        };
+    }
+
+    static Call yes(java.util.function.BooleanSupplier call) {
+        return () -> call.getAsBoolean() ? 1 : 0;
+    }
+
+    void end() {
+        System.out.println(test + ": " + made + " answers, " + wrong + " not as due");
+        if (wrong != 0) {
+            System.exit(1);
+        }
+    }
+}
