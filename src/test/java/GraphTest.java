@@ -103,6 +103,22 @@ public final class GraphTest {
         dueState(x, 3, 1, 2, 0);
     }
 
+    /** A smaller graph tells nothing of the greater one that was there before. */
+    private static void smallerGraph() {
+        CoverTrees x = Nets.diamond();
+        x.explore();
+        x.graph();
+        x.tokens(0, 0);
+        x.tokens(1, 0);
+        x.explore();
+        checks.due("no tokens: graph()", 1, x.graph());
+        checks.due("no tokens: stops()", 1, x.stops());
+        checks.due("no tokens: live(0)", false, x.live(0));
+        checks.noIndex("no tokens: distance(1)", () -> x.distance(1));
+        x.want(2, 2);
+        checks.due("no tokens: reached()", NONE, x.reached());
+    }
+
     private static void limitOfStates() {
         CoverTrees x = Nets.grid(3, 9, 0);
         x.explore();
@@ -143,6 +159,7 @@ public final class GraphTest {
         liveFarAhead();
         longRing();
         stops();
+        smallerGraph();
         limitOfStates();
         endless();
         withoutGraph();

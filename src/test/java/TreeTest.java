@@ -125,6 +125,27 @@ public final class TreeTest {
         checks.noIndex("bound(-1)", () -> x.bound(-1));
     }
 
+    /** A smaller tree tells nothing of the greater one that was there before. */
+    private static void smallerTree() {
+        CoverTrees x = Nets.diamond();
+        x.explore();
+        x.tokens(0, 0);
+        x.tokens(1, 0);
+        checks.due("no tokens: explore()", 1, x.explore());
+        checks.due("no tokens: bound(0)", 0, x.bound(0));
+        checks.due("no tokens: bound(2)", 0, x.bound(2));
+        checks.due("no tokens: possible(0)", false, x.possible(0));
+        checks.noIndex("no tokens: count(1, 0)", () -> x.count(1, 0));
+        x.want(2, 1);
+        checks.due("no tokens: covered()", false, x.covered());
+        CoverTrees y = Nets.growing();
+        y.explore();
+        y.arc(2, 1, 0, true);
+        y.explore();
+        checks.due("grows no more: growth(-1)", NONE, y.growth(-1));
+        checks.due("grows no more: graph()", 2, y.graph());
+    }
+
     private static void target() {
         CoverTrees x = Nets.diamond();
         checks.noIndex("want(3, 0)", Checks.nothing(() -> x.want(3, 0)));
@@ -167,14 +188,16 @@ public final class TreeTest {
         Nets.add(x, Nets.row(0, 0, 4), Nets.row(0, 0, 4));
         Nets.add(x, Nets.row(1, 0, 1), Nets.row(1, 0, 1));
         Nets.add(x, Nets.row(1, 0, 0), Nets.row(1, 0, 0));
-        checks.noState("no tree: possible(5)", Checks.yes(() -> x.possible(5)));
+        Nets.add(x, Nets.row(1, 1, 0), Nets.row(0, 0, 0));
+        checks.noState("no tree: possible(6)", Checks.yes(() -> x.possible(6)));
         x.explore();
         checks.due("possible(0)", true, x.possible(0));
         checks.due("possible(1)", true, x.possible(1));
         checks.due("takes 4 of an endless place: possible(2)", true, x.possible(2));
         checks.due("takes what is never there together: possible(3)", false, x.possible(3));
         checks.due("only at first: possible(4)", true, x.possible(4));
-        checks.noIndex("possible(5)", Checks.yes(() -> x.possible(5)));
+        checks.due("takes two that are never there together: possible(5)", false, x.possible(5));
+        checks.noIndex("possible(6)", Checks.yes(() -> x.possible(6)));
         checks.noIndex("possible(-1)", Checks.yes(() -> x.possible(-1)));
     }
 
@@ -205,6 +228,7 @@ public final class TreeTest {
         endlessByTheRoot();
         limitOfNodes();
         bounds();
+        smallerTree();
         target();
         targetOfEndless();
         possible();
