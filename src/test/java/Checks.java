@@ -5,6 +5,8 @@ final class Checks {
     }
 
     private final String test;
+    private String sentence = "";
+    private int sentences = 0;
     private int made = 0;
     private int wrong = 0;
 
@@ -12,12 +14,22 @@ final class Checks {
         this.test = test;
     }
 
+    /** The sentence of the document that the answers from here on are due by. */
+    void sentence(String words) {
+        sentence = " [" + words + "]";
+        sentences++;
+    }
+
     void due(String what, long due, long answered) {
         made++;
         if (due != answered) {
-            wrong++;
-            System.out.println(test + ": " + what + " answered " + answered + ", due is " + due);
+            tellWrong(what, "" + due, "" + answered);
         }
+    }
+
+    private void tellWrong(String what, String due, String answered) {
+        wrong++;
+        System.out.println(test + sentence + ": " + what + " answered " + answered + ", due is " + due);
     }
 
     void due(String what, boolean due, boolean answered) {
@@ -27,8 +39,7 @@ final class Checks {
     void text(String what, String due, String answered) {
         made++;
         if (!due.equals(answered)) {
-            wrong++;
-            System.out.println(test + ": " + what + " answered " + answered + ", due is " + due);
+            tellWrong(what, due, answered);
         }
     }
 
@@ -69,7 +80,8 @@ final class Checks {
     }
 
     void end() {
-        System.out.println(test + ": " + made + " answers, " + wrong + " not as due");
+        System.out.println(test + ": " + made + " answers"
+            + (sentences > 0 ? " for " + sentences + " sentences" : "") + ", " + wrong + " not as due");
         if (wrong != 0) {
             System.exit(1);
         }

@@ -61,4 +61,63 @@ final class Nets {
         add(x, row(0, 0, 1, 0), row(0, 0, 0, 1));
         return x;
     }
+
+    /** All 6 places and all 8 transitions: a ring, and transitions that are never enabled. */
+    static CoverTrees full() {
+        CoverTrees x = withPlaces(1, 0, 0, 0, 0, 0);
+        move(x, 0, 1);
+        move(x, 1, 0);
+        for (int t = 2; t < 8; t++) {
+            x.arc(5, x.transition(), 1, false);
+        }
+        return x;
+    }
+
+    /** Adds a transition that moves a token from one place to another. */
+    static int move(CoverTrees x, int from, int to) {
+        int t = x.transition();
+        x.arc(from, t, 1, false);
+        x.arc(to, t, 1, true);
+        return t;
+    }
+
+    /**
+     * Never more than one transition enabled, so that nodes and states are one chain: rounds
+     * of 11 firings (transition 0, 4 times 1, 2, 4 times 3, 4), one for each token of place 0.
+     * Counts (n, 1, 0, 0, 0, 0) are the start of n rounds, (n, 0, 0, 0, 0, 4) one firing more.
+     */
+    static CoverTrees chain(int... tokens) {
+        CoverTrees x = withPlaces(tokens);
+        add(x, row(1, 1, 0, 0, 0, 0), row(0, 0, 4, 0, 0, 0));
+        add(x, row(0, 0, 1, 0, 0, 0), row(0, 0, 0, 1, 0, 0));
+        add(x, row(0, 0, 0, 4, 0, 0), row(0, 0, 0, 0, 4, 0));
+        add(x, row(0, 0, 0, 0, 1, 0), row(0, 0, 0, 0, 0, 1));
+        add(x, row(0, 0, 0, 0, 0, 4), row(0, 1, 0, 0, 0, 0));
+        return x;
+    }
+
+    /**
+     * A chain as well, of rounds of 6 firings, one for each token of place 0, each of which
+     * gives place 4 so many more: 6 * rounds + 1 nodes and states.
+     */
+    static CoverTrees heap(int rounds, int tokens, int more) {
+        CoverTrees x = withPlaces(rounds, 1, 0, 0, tokens);
+        add(x, row(1, 1, 0, 0, 0), row(0, 0, 4, 0, more));
+        add(x, row(0, 0, 1, 0, 0), row(0, 0, 0, 1, more));
+        add(x, row(0, 0, 0, 4, 0), row(0, 1, 0, 0, more));
+        return x;
+    }
+
+    /**
+     * The chain of 4 rounds of 6 firings; each round gives place 4 one more, and only at the
+     * end of the last is transition 3, which takes 4 of them, enabled.
+     */
+    static CoverTrees lateLast() {
+        CoverTrees x = withPlaces(4, 1, 0, 0, 0);
+        add(x, row(1, 1, 0, 0, 0), row(0, 0, 4, 0, 0));
+        add(x, row(0, 0, 1, 0, 0), row(0, 0, 0, 1, 0));
+        add(x, row(0, 0, 0, 4, 0), row(0, 1, 0, 0, 1));
+        add(x, row(0, 0, 0, 0, 4), row(0, 0, 0, 0, 4));
+        return x;
+    }
 }
