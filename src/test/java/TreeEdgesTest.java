@@ -241,6 +241,61 @@ public final class TreeEdgesTest {
         dueNoTree("101", y);
     }
 
+    /**
+     * A chain, of whose nodes with all 4 tokens in place 2 and 4 at least in place 0 the last
+     * of the 8 transitions has a child as well: the chain is made first, the children last.
+     */
+    private static CoverTrees chainWithLateChildren(int... tokens) {
+        CoverTrees x = Nets.chain(tokens);
+        for (int t = 5; t < 7; t++) {
+            x.transition();
+            x.arc(1, t, 1, false);
+            x.arc(2, t, 1, false);
+        }
+        x.transition();
+        x.arc(0, 7, 4, false);
+        x.arc(2, 7, 4, false);
+        return x;
+    }
+
+    private static void thereMayBe100NodesOf8Transitions() {
+        checks.sentence("Terms: there may be 100 nodes (none a copy, of each 8 transitions to look at)");
+        CoverTrees x = chainWithLateChildren(8, 0, 1, 3, 0, 0);
+        checks.due("100: explore()", 100, x.explore());
+        dueNode(x, 95, 94, 4, 0, 0, 1, 0, 0, 0, 0);
+        for (int k = 0; k < 4; k++) {
+            dueNode(x, 96 + k, 41 - 11 * k, 7, 0, k, 0, 0, 0, 0, 0);
+        }
+        CoverTrees y = chainWithLateChildren(8, 0, 2, 2, 0, 0);
+        checks.tooMany("101: explore()", () -> y.explore());
+        dueNoTree("101", y);
+    }
+
+    private static void aTreeOf100NodesTellsWhatNoneOfThemHas() {
+        checks.sentence("Promises 11 and 12: no reached marking, where there are 100 nodes");
+        CoverTrees x = chainWithLateChildren(8, 0, 1, 3, 0, 0);
+        x.explore();
+        checks.due("never together: possible(5)", false, x.possible(5));
+        checks.due("the last: possible(7)", true, x.possible(7));
+        x.want(1, 1);
+        checks.due("one of place 1: covered()", true, x.covered());
+        x.want(2, 1);
+        checks.due("and one of place 2: covered()", false, x.covered());
+        CoverTrees y = Nets.ring();
+        y.explore();
+        y.arc(1, 1, 4, false);
+        checks.due("one node less than before: explore()", 2, y.explore());
+        y.want(0, 1);
+        y.want(1, 1);
+        checks.due("one node less than before: covered()", false, y.covered());
+        y.tokens(0, 0);
+        checks.due("still one less: explore()", 1, y.explore());
+        y.want(0, 0);
+        checks.due("still one less: covered()", false, y.covered());
+        checks.due("still one less: possible(0)", false, y.possible(0));
+        checks.due("still one less: bound(1)", 0, y.bound(1));
+    }
+
     private static void aCopyCountsAmongThe100Nodes() {
         checks.sentence("Promise 6: when there are more than 100 (copies too)");
         CoverTrees x = Nets.chain(9, 1, 0, 0, 0, 0);
@@ -542,6 +597,8 @@ public final class TreeEdgesTest {
         aNodeBesideTheWayMakesNothingEndless();
         thereMayBe100Nodes();
         thereMayBe100NodesInOneChain();
+        thereMayBe100NodesOf8Transitions();
+        aTreeOf100NodesTellsWhatNoneOfThemHas();
         aCopyCountsAmongThe100Nodes();
         exploreDiscardsTreeAndGraphAndMakesTheTree();
         afterNoTreeThereMayBeOneAgain();
