@@ -59,6 +59,22 @@ final class Checks {
         text(what, "throws UnsupportedOperationException", outcome(call));
     }
 
+    /** Parent, transition, whether a copy, and the marking, as far as it is told. */
+    void dueNode(CoverTrees x, int node, int parent, int by, int copy, int... marking) {
+        due("node(" + node + ", 0)", parent, x.node(node, 0));
+        due("node(" + node + ", 1)", by, x.node(node, 1));
+        due("node(" + node + ", 2)", copy, x.node(node, 2));
+        for (int p = 0; p < marking.length; p++) {
+            due("count(" + node + ", " + p + ")", marking[p], x.count(node, p));
+        }
+    }
+
+    void dueState(CoverTrees x, int state, int distance, int by, int from) {
+        due("distance(" + state + ")", distance, x.distance(state));
+        due("found(" + state + ", false)", by, x.found(state, false));
+        due("found(" + state + ", true)", from, x.found(state, true));
+    }
+
     /** What a call answers or throws, as a text. */
     static String outcome(Call call) {
         try {

@@ -2,13 +2,6 @@
 public final class DiscardTest {
     private static final Checks checks = new Checks("DiscardTest");
 
-    private static CoverTrees ringWithGraph() {
-        CoverTrees x = Nets.ring();
-        x.explore();
-        x.graph();
-        return x;
-    }
-
     private static void dueDiscarded(String what, Checks.Call change, CoverTrees x) {
         Checks.outcome(change);
         checks.noState(what + ", then covered()", Checks.yes(() -> x.covered()));
@@ -24,26 +17,26 @@ public final class DiscardTest {
     }
 
     private static void changes() {
-        CoverTrees a = ringWithGraph();
+        CoverTrees a = Nets.withGraph(Nets.ring());
         dueDiscarded("place(0)", () -> a.place(0), a);
-        CoverTrees b = ringWithGraph();
+        CoverTrees b = Nets.withGraph(Nets.ring());
         dueDiscarded("transition()", () -> b.transition(), b);
-        CoverTrees c = ringWithGraph();
+        CoverTrees c = Nets.withGraph(Nets.ring());
         dueDiscarded("arc(0, 0, 2, false)", () -> c.arc(0, 0, 2, false), c);
-        CoverTrees d = ringWithGraph();
+        CoverTrees d = Nets.withGraph(Nets.ring());
         dueDiscarded("arc(0, 0, 1, false), what it is", () -> d.arc(0, 0, 1, false), d);
-        CoverTrees e = ringWithGraph();
+        CoverTrees e = Nets.withGraph(Nets.ring());
         dueDiscarded("tokens(0, 2)", Checks.nothing(() -> e.tokens(0, 2)), e);
-        CoverTrees f = ringWithGraph();
+        CoverTrees f = Nets.withGraph(Nets.ring());
         dueDiscarded("tokens(0, 1), what it is", Checks.nothing(() -> f.tokens(0, 1)), f);
-        CoverTrees g = ringWithGraph();
+        CoverTrees g = Nets.withGraph(Nets.ring());
         g.explore();
         checks.noState("explore(), then stops()", () -> g.stops());
         checks.due("explore(), then covered()", true, g.covered());
     }
 
     private static void noChanges() {
-        CoverTrees x = ringWithGraph();
+        CoverTrees x = Nets.withGraph(Nets.ring());
         dueKept("want(0, 0)", Checks.nothing(() -> x.want(0, 0)), x);
         dueKept("want(0, 1)", Checks.nothing(() -> x.want(0, 1)), x);
         checks.due("want(0, 1), then reached()", 0, x.reached());
@@ -62,7 +55,7 @@ public final class DiscardTest {
     }
 
     private static void throwsOfFullNets() {
-        CoverTrees x = ringWithGraph();
+        CoverTrees x = Nets.withGraph(Nets.ring());
         for (int p = 2; p < 6; p++) {
             x.place(0);
         }
@@ -77,7 +70,7 @@ public final class DiscardTest {
     }
 
     private static void targetStays() {
-        CoverTrees x = ringWithGraph();
+        CoverTrees x = Nets.withGraph(Nets.ring());
         x.want(1, 1);
         x.place(0);
         x.transition();

@@ -9,12 +9,6 @@ public final class GraphEdgesTest {
     private GraphEdgesTest() {
     }
 
-    private static void dueState(CoverTrees x, int state, int distance, int by, int from) {
-        checks.due("distance(" + state + ")", distance, x.distance(state));
-        checks.due("found(" + state + ", false)", by, x.found(state, false));
-        checks.due("found(" + state + ", true)", from, x.found(state, true));
-    }
-
     /** The state whose marking is told. */
     private static void dueMarking(CoverTrees x, int state, int... marking) {
         for (int p = 0; p < marking.length; p++) {
@@ -30,17 +24,6 @@ public final class GraphEdgesTest {
         checks.noState(what + ": found(0, true)", () -> x.found(0, true));
         checks.noState(what + ": stops()", () -> x.stops());
         checks.noState(what + ": live(0)", Checks.yes(() -> x.live(0)));
-    }
-
-    private static CoverTrees explored(CoverTrees x) {
-        x.explore();
-        return x;
-    }
-
-    private static CoverTrees withGraph(CoverTrees x) {
-        x.explore();
-        x.graph();
-        return x;
     }
 
     private static void thereIsAGraphIfThereIsATree() {
@@ -82,9 +65,9 @@ public final class GraphEdgesTest {
 
     private static void thereMayBe40States() {
         checks.sentence("Terms: there may be 40; when there are more there is no graph");
-        CoverTrees w = explored(Nets.chain(3, 0, 0, 0, 4, 0));
+        CoverTrees w = Nets.withTree(Nets.chain(3, 0, 0, 0, 4, 0));
         checks.due("39: graph()", 39, w.graph());
-        CoverTrees x = explored(Nets.chain(3, 0, 0, 4, 0, 0));
+        CoverTrees x = Nets.withTree(Nets.chain(3, 0, 0, 4, 0, 0));
         checks.due("40: graph()", 40, x.graph());
         for (int s = 1; s < 40; s++) {
             checks.due("40: distance(" + s + ")", s, x.distance(s));
@@ -96,7 +79,7 @@ public final class GraphEdgesTest {
         checks.noIndex("40: found(40, false)", () -> x.found(40, false));
         dueMarking(x, 39, 0, 1, 0, 0, 0, 0);
         dueMarking(x, 0, 3, 0, 0, 4, 0, 0);
-        CoverTrees y = explored(Nets.chain(3, 0, 1, 3, 0, 0));
+        CoverTrees y = Nets.withTree(Nets.chain(3, 0, 1, 3, 0, 0));
         checks.tooMany("41: graph()", () -> y.graph());
         dueNoGraph("41", y);
         checks.due("41, the tree stays: bound(0)", 3, y.bound(0));
@@ -107,7 +90,7 @@ public final class GraphEdgesTest {
 
     private static void afterNoGraphThereMayBeOneAgain() {
         checks.sentence("Promise 14: no graph then (and one again when there are fewer states)");
-        CoverTrees x = withGraph(Nets.chain(3, 0, 0, 4, 0, 0));
+        CoverTrees x = Nets.withGraph(Nets.chain(3, 0, 0, 4, 0, 0));
         checks.due("40: distance(39)", 39, x.distance(39));
         x.tokens(2, 1);
         x.tokens(3, 3);
@@ -121,7 +104,7 @@ public final class GraphEdgesTest {
         checks.noIndex("8: distance(8)", () -> x.distance(8));
         checks.due("8: stops()", 1, x.stops());
         dueMarking(x, NONE, 3, 0, 0, 4, 0, 0);
-        CoverTrees y = explored(Nets.chain(9, 1, 0, 0, 0, 0));
+        CoverTrees y = Nets.withTree(Nets.chain(9, 1, 0, 0, 0, 0));
         checks.tooMany("100: graph()", () -> y.graph());
         dueNoGraph("100", y);
     }
@@ -133,7 +116,7 @@ public final class GraphEdgesTest {
         checks.due("no places: graph()", 1, x.graph());
         checks.due("no places: reached()", 0, x.reached());
         checks.due("no places: stops()", 1, x.stops());
-        dueState(x, 0, 0, NONE, NONE);
+        checks.dueState(x, 0, 0, NONE, NONE);
         checks.noIndex("no places: distance(1)", () -> x.distance(1));
         CoverTrees y = Nets.withPlaces(9, 0, 0, 0, 0, 9);
         y.explore();
@@ -145,7 +128,7 @@ public final class GraphEdgesTest {
         checks.due("a transition and no places: graph()", 1, z.graph());
         checks.due("a transition and no places: stops()", 0, z.stops());
         checks.due("a transition and no places: live(0)", true, z.live(0));
-        dueState(z, 0, 0, NONE, NONE);
+        checks.dueState(z, 0, 0, NONE, NONE);
     }
 
     /** State 3 comes of state 1, though a transition with a less number finds it from state 2. */
@@ -159,10 +142,10 @@ public final class GraphEdgesTest {
         Nets.move(x, 1, 3);
         x.explore();
         checks.due("graph()", 5, x.graph());
-        dueState(x, 1, 1, 2, 0);
-        dueState(x, 2, 1, 3, 0);
-        dueState(x, 3, 2, 4, 1);
-        dueState(x, 4, 2, 1, 2);
+        checks.dueState(x, 1, 1, 2, 0);
+        checks.dueState(x, 2, 1, 3, 0);
+        checks.dueState(x, 3, 2, 4, 1);
+        checks.dueState(x, 4, 2, 1, 2);
         dueMarking(x, 1, 0, 1, 0, 0, 0);
         dueMarking(x, 2, 0, 0, 1, 0, 0);
         dueMarking(x, 3, 0, 0, 0, 1, 0);
@@ -178,29 +161,29 @@ public final class GraphEdgesTest {
         Nets.move(x, 1, 0);
         x.explore();
         checks.due("graph()", 2, x.graph());
-        dueState(x, 0, 0, NONE, NONE);
-        dueState(x, 1, 1, 1, 0);
+        checks.dueState(x, 0, 0, NONE, NONE);
+        checks.dueState(x, 1, 1, 1, 0);
         CoverTrees y = Nets.full();
         y.arc(5, 7, 0, false);
         y.arc(0, 7, 1, false);
         y.arc(5, 7, 1, true);
-        withGraph(y);
-        dueState(y, 2, 1, 7, 0);
+        Nets.withGraph(y);
+        checks.dueState(y, 2, 1, 7, 0);
     }
 
     private static void graphAgainIsTheSame() {
         checks.sentence("Promise 14: makes the graph; answers the number of its states");
-        CoverTrees x = explored(Nets.diamond());
+        CoverTrees x = Nets.withTree(Nets.diamond());
         for (int k = 0; k < 3; k++) {
             checks.due("graph()", 4, x.graph());
-            dueState(x, 3, 2, 1, 1);
+            checks.dueState(x, 3, 2, 1, 1);
             checks.due("stops()", 1, x.stops());
         }
     }
 
     private static void reachedIsTheStateWhoseMarkingIsTheTarget() {
         checks.sentence("Promise 15: the state whose marking is the target; NONE when there is none such");
-        CoverTrees x = withGraph(Nets.full());
+        CoverTrees x = Nets.withGraph(Nets.full());
         checks.due("all 0: reached()", NONE, x.reached());
         dueMarking(x, 0, 1, 0, 0, 0, 0, 0);
         dueMarking(x, 1, 0, 1, 0, 0, 0, 0);
@@ -208,7 +191,7 @@ public final class GraphEdgesTest {
         dueMarking(x, NONE, 1, 1, 0, 0, 0, 0);
         dueMarking(x, NONE, 0, 2, 0, 0, 0, 0);
         dueMarking(x, NONE, 99, 99, 99, 99, 99, 99);
-        CoverTrees y = withGraph(Nets.withPlaces(0));
+        CoverTrees y = Nets.withGraph(Nets.withPlaces(0));
         checks.due("all 0 is the first marking: reached()", 0, y.reached());
         y.want(0, 1);
         checks.due("one more: reached()", NONE, y.reached());
@@ -224,13 +207,13 @@ public final class GraphEdgesTest {
         Nets.move(x, 0, 3);
         Nets.move(x, 3, 4);
         Nets.move(x, 4, 0);
-        withGraph(x);
+        Nets.withGraph(x);
         checks.due("state 0 itself: distance(0)", 0, x.distance(0));
         dueMarking(x, 2, 0, 0, 0, 1, 0);
-        dueState(x, 2, 1, 3, 0);
-        dueState(x, 3, 2, 1, 1);
-        dueState(x, 4, 2, 4, 2);
-        CoverTrees y = withGraph(Nets.chain(3, 0, 0, 4, 0, 0));
+        checks.dueState(x, 2, 1, 3, 0);
+        checks.dueState(x, 3, 2, 1, 1);
+        checks.dueState(x, 4, 2, 4, 2);
+        CoverTrees y = Nets.withGraph(Nets.chain(3, 0, 0, 4, 0, 0));
         checks.due("the farthest of a chain of 40: distance(39)", 39, y.distance(39));
         checks.noIndex("distance(40)", () -> y.distance(40));
         checks.noIndex("distance(-1)", () -> y.distance(-1));
@@ -238,25 +221,25 @@ public final class GraphEdgesTest {
 
     private static void foundIsNoneForState0() {
         checks.sentence("Promise 17: NONE for state 0 (also where firing comes back to it)");
-        CoverTrees x = withGraph(Nets.ring());
-        dueState(x, 0, 0, NONE, NONE);
-        dueState(x, 1, 1, 0, 0);
+        CoverTrees x = Nets.withGraph(Nets.ring());
+        checks.dueState(x, 0, 0, NONE, NONE);
+        checks.dueState(x, 1, 1, 0, 0);
         checks.noIndex("found(2, true)", () -> x.found(2, true));
         checks.noIndex("found(-1, false)", () -> x.found(-1, false));
     }
 
     private static void stopsCountsStatesThatEnableNoTransition() {
         checks.sentence("Promise 18: how many states enable no transition");
-        checks.due("no transitions: stops()", 1, withGraph(Nets.withPlaces(1)).stops());
-        checks.due("none stops: stops()", 0, withGraph(Nets.ring()).stops());
+        checks.due("no transitions: stops()", 1, Nets.withGraph(Nets.withPlaces(1)).stops());
+        checks.due("none stops: stops()", 0, Nets.withGraph(Nets.ring()).stops());
         CoverTrees x = Nets.withPlaces(1, 0, 0, 0, 0, 0);
         for (int p = 1; p < 6; p++) {
             Nets.move(x, 0, p);
         }
-        checks.due("all but state 0: stops()", 5, withGraph(x).stops());
+        checks.due("all but state 0: stops()", 5, Nets.withGraph(x).stops());
         Nets.add(x, Nets.row(0, 0, 0, 0, 0, 1), Nets.row(0, 0, 0, 0, 0, 1));
-        checks.due("one of them comes back to itself: stops()", 4, withGraph(x).stops());
-        checks.due("the last of 40 alone: stops()", 1, withGraph(Nets.grid(3, 9, 0)).stops());
+        checks.due("one of them comes back to itself: stops()", 4, Nets.withGraph(x).stops());
+        checks.due("the last of 40 alone: stops()", 1, Nets.withGraph(Nets.grid(3, 9, 0)).stops());
     }
 
     private static void liveByNoneOneOrMoreFirings() {
@@ -265,16 +248,16 @@ public final class GraphEdgesTest {
         Nets.move(x, 0, 1);
         Nets.move(x, 1, 2);
         Nets.add(x, Nets.row(0, 0, 1), Nets.row(0, 0, 1));
-        withGraph(x);
+        Nets.withGraph(x);
         checks.due("only at first: live(0)", false, x.live(0));
         checks.due("not behind it: live(1)", false, x.live(1));
         checks.due("none, one or two firings away: live(2)", true, x.live(2));
         CoverTrees y = Nets.lateLast();
-        withGraph(y);
+        Nets.withGraph(y);
         checks.due("up to 24 firings away: live(3)", true, y.live(3));
         checks.due("not at the end: live(2)", false, y.live(2));
         y.arc(4, 3, 3, true);
-        withGraph(y);
+        Nets.withGraph(y);
         checks.due("it can be fired once and stops: live(3)", false, y.live(3));
         checks.due("it can be fired once and stops: possible(3)", true, y.possible(3));
     }
@@ -285,17 +268,17 @@ public final class GraphEdgesTest {
         Nets.move(x, 0, 1);
         Nets.move(x, 1, 0);
         Nets.move(x, 0, 2);
-        withGraph(x);
+        Nets.withGraph(x);
         for (int t = 0; t < 3; t++) {
             checks.due("not from where it stops: live(" + t + ")", false, x.live(t));
         }
         Nets.move(x, 2, 0);
-        withGraph(x);
+        Nets.withGraph(x);
         for (int t = 0; t < 4; t++) {
             checks.due("with a way back: live(" + t + ")", true, x.live(t));
         }
         checks.noIndex("live(4)", Checks.yes(() -> x.live(4)));
-        CoverTrees y = withGraph(Nets.full());
+        CoverTrees y = Nets.withGraph(Nets.full());
         checks.due("of 8, in the ring: live(1)", true, y.live(1));
         checks.due("of 8, never enabled: live(2)", false, y.live(2));
         checks.due("of 8, the last, never enabled: live(7)", false, y.live(7));

@@ -3,20 +3,14 @@ public final class GraphTest {
     private static final int NONE = CoverTrees.NONE;
     private static final Checks checks = new Checks("GraphTest");
 
-    private static void dueState(CoverTrees x, int state, int distance, int by, int from) {
-        checks.due("distance(" + state + ")", distance, x.distance(state));
-        checks.due("found(" + state + ", false)", by, x.found(state, false));
-        checks.due("found(" + state + ", true)", from, x.found(state, true));
-    }
-
     private static void diamond() {
         CoverTrees x = Nets.diamond();
         x.explore();
         checks.due("diamond: graph()", 4, x.graph());
-        dueState(x, 0, 0, NONE, NONE);
-        dueState(x, 1, 1, 0, 0);
-        dueState(x, 2, 1, 1, 0);
-        dueState(x, 3, 2, 1, 1);
+        checks.dueState(x, 0, 0, NONE, NONE);
+        checks.dueState(x, 1, 1, 0, 0);
+        checks.dueState(x, 2, 1, 1, 0);
+        checks.dueState(x, 3, 2, 1, 1);
         checks.noIndex("diamond: distance(4)", () -> x.distance(4));
         checks.noIndex("diamond: distance(-1)", () -> x.distance(-1));
         checks.noIndex("diamond: found(4, true)", () -> x.found(4, true));
@@ -56,7 +50,7 @@ public final class GraphTest {
         checks.due("ring: live(1)", true, x.live(1));
         checks.noIndex("ring: live(2)", Checks.yes(() -> x.live(2)));
         checks.noIndex("ring: live(-1)", Checks.yes(() -> x.live(-1)));
-        dueState(x, 0, 0, NONE, NONE);
+        checks.dueState(x, 0, 0, NONE, NONE);
     }
 
     /** Out of the ring, with no way back, there is a place where only transition 3 goes on. */
@@ -100,7 +94,7 @@ public final class GraphTest {
         x.explore();
         checks.due("three ends: graph()", 4, x.graph());
         checks.due("three ends, one goes on: stops()", 2, x.stops());
-        dueState(x, 3, 1, 2, 0);
+        checks.dueState(x, 3, 1, 2, 0);
     }
 
     /** A smaller graph tells nothing of the greater one that was there before. */
@@ -123,7 +117,7 @@ public final class GraphTest {
         CoverTrees x = Nets.grid(3, 9, 0);
         x.explore();
         checks.due("40 states: graph()", 40, x.graph());
-        dueState(x, 39, 12, 1, 37);
+        checks.dueState(x, 39, 12, 1, 37);
         checks.noIndex("40 states: distance(40)", () -> x.distance(40));
         CoverTrees y = Nets.grid(3, 9, 1);
         checks.due("41 states: explore()", 68, y.explore());

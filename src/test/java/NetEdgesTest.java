@@ -207,16 +207,7 @@ public final class NetEdgesTest {
     private static CoverTrees fullWithGraph() {
         CoverTrees x = Nets.full();
         x.tokens(5, 0);
-        x.explore();
-        x.graph();
-        return x;
-    }
-
-    private static CoverTrees ringWithGraph() {
-        CoverTrees x = Nets.ring();
-        x.explore();
-        x.graph();
-        return x;
+        return Nets.withGraph(x);
     }
 
     private static void dueDiscarded(String what, CoverTrees x) {
@@ -236,10 +227,10 @@ public final class NetEdgesTest {
 
     private static void toAddDiscardsTreeAndGraph() {
         checks.sentence("Terms: to add anything discards tree and graph");
-        CoverTrees x = ringWithGraph();
+        CoverTrees x = Nets.withGraph(Nets.ring());
         x.place(0);
         dueDiscarded("place(0)", x);
-        CoverTrees y = ringWithGraph();
+        CoverTrees y = Nets.withGraph(Nets.ring());
         y.transition();
         dueDiscarded("transition()", y);
         CoverTrees z = new CoverTrees();
@@ -257,13 +248,13 @@ public final class NetEdgesTest {
         checks.sentence("Terms: to change anything (also to what it is already) discards tree and graph");
         for (int n = 0; n <= 4; n++) {
             for (int k = 0; k < 2; k++) {
-                CoverTrees x = ringWithGraph();
+                CoverTrees x = Nets.withGraph(Nets.ring());
                 x.arc(0, 0, n, k == 1);
                 dueDiscarded("arc(0, 0, " + n + ", " + (k == 1) + ")", x);
             }
         }
         for (int n = 0; n <= 9; n++) {
-            CoverTrees x = ringWithGraph();
+            CoverTrees x = Nets.withGraph(Nets.ring());
             x.tokens(0, n);
             dueDiscarded("tokens(0, " + n + ")", x);
         }
@@ -277,7 +268,7 @@ public final class NetEdgesTest {
 
     private static void theTargetDiscardsNothing() {
         checks.sentence("Terms: to change anything (but the target) discards tree and graph");
-        CoverTrees x = ringWithGraph();
+        CoverTrees x = Nets.withGraph(Nets.ring());
         for (int n : new int[] {0, 1, 98, 99}) {
             x.want(1, n);
             checks.due("want(1, " + n + "), then count(2, 0)", 1, x.count(2, 0));

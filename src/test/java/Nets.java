@@ -11,6 +11,17 @@ final class Nets {
         return x;
     }
 
+    static CoverTrees withTree(CoverTrees x) {
+        x.explore();
+        return x;
+    }
+
+    static CoverTrees withGraph(CoverTrees x) {
+        x.explore();
+        x.graph();
+        return x;
+    }
+
     /** Adds a transition; the rows tell for each place what it takes and what it gives. */
     static int add(CoverTrees x, int[] takes, int[] gives) {
         int t = x.transition();

@@ -20,7 +20,7 @@ public final class RefusedTest {
     }
 
     private static CoverTrees emptyWithGraph() {
-        return withGraph(new CoverTrees());
+        return Nets.withGraph(new CoverTrees());
     }
 
     private static CoverTrees ring() {
@@ -28,35 +28,24 @@ public final class RefusedTest {
     }
 
     private static CoverTrees ringWithTree() {
-        return withTree(ring());
+        return Nets.withTree(ring());
     }
 
     private static CoverTrees ringWithGraph() {
-        return withGraph(ring());
+        return Nets.withGraph(ring());
     }
 
     private static CoverTrees fullWithGraph() {
-        return withGraph(withTarget(Nets.full()));
+        return Nets.withGraph(withTarget(Nets.full()));
     }
 
     private static CoverTrees growingWithTree() {
-        return withTree(withTarget(Nets.growing()));
+        return Nets.withTree(withTarget(Nets.growing()));
     }
 
     /** The target is the marking of state 1, so that reached() tells each change of it. */
     private static CoverTrees withTarget(CoverTrees x) {
         x.want(1, 1);
-        return x;
-    }
-
-    private static CoverTrees withTree(CoverTrees x) {
-        x.explore();
-        return x;
-    }
-
-    private static CoverTrees withGraph(CoverTrees x) {
-        x.explore();
-        x.graph();
         return x;
     }
 
@@ -240,10 +229,10 @@ public final class RefusedTest {
 
     private static void graphIsRefusedMoreThan40States() {
         checks.sentence("Promise 14: UnsupportedOperationException when there are more than 40 (and no graph then)");
-        refuse("graph() of 41 states", TOO_MANY, () -> withTree(Nets.grid(3, 9, 1)), x -> x.graph());
-        refuse("graph() of 41 states in one chain", TOO_MANY, () -> withTree(Nets.chain(3, 0, 1, 3, 0, 0)),
+        refuse("graph() of 41 states", TOO_MANY, () -> Nets.withTree(Nets.grid(3, 9, 1)), x -> x.graph());
+        refuse("graph() of 41 states in one chain", TOO_MANY, () -> Nets.withTree(Nets.chain(3, 0, 1, 3, 0, 0)),
             x -> x.graph());
-        refuse("graph() of 100 states", TOO_MANY, () -> withTree(Nets.chain(9, 1, 0, 0, 0, 0)), x -> x.graph());
+        refuse("graph() of 100 states", TOO_MANY, () -> Nets.withTree(Nets.chain(9, 1, 0, 0, 0, 0)), x -> x.graph());
     }
 
     private static void whatAsksTheGraphIsRefusedWhenThereIsNone() {
@@ -268,7 +257,7 @@ public final class RefusedTest {
     }
 
     private static CoverTrees refusedAGraph() {
-        CoverTrees x = withTree(Nets.grid(3, 9, 1));
+        CoverTrees x = Nets.withTree(Nets.grid(3, 9, 1));
         Checks.outcome(() -> x.graph());
         return x;
     }
@@ -285,8 +274,8 @@ public final class RefusedTest {
         refuse("nothing there: found(1, true)", INDEX, RefusedTest::emptyWithGraph, x -> x.found(1, true));
         refuse("nothing there: live(0)", INDEX, RefusedTest::emptyWithGraph, x -> x.live(0));
         refuse("8 transitions: live(8)", INDEX, RefusedTest::fullWithGraph, x -> x.live(8));
-        refuse("40 states: distance(40)", INDEX, () -> withGraph(Nets.grid(3, 9, 0)), x -> x.distance(40));
-        refuse("40 states: found(40, true)", INDEX, () -> withGraph(Nets.grid(3, 9, 0)), x -> x.found(40, true));
+        refuse("40 states: distance(40)", INDEX, () -> Nets.withGraph(Nets.grid(3, 9, 0)), x -> x.distance(40));
+        refuse("40 states: found(40, true)", INDEX, () -> Nets.withGraph(Nets.grid(3, 9, 0)), x -> x.found(40, true));
     }
 
     public static void main(String[] args) {

@@ -10,15 +10,6 @@ public final class TreeEdgesTest {
     private TreeEdgesTest() {
     }
 
-    private static void dueNode(CoverTrees x, int node, int parent, int by, int copy, int... marking) {
-        checks.due("node(" + node + ", 0)", parent, x.node(node, 0));
-        checks.due("node(" + node + ", 1)", by, x.node(node, 1));
-        checks.due("node(" + node + ", 2)", copy, x.node(node, 2));
-        for (int p = 0; p < marking.length; p++) {
-            checks.due("count(" + node + ", " + p + ")", marking[p], x.count(node, p));
-        }
-    }
-
     private static void dueNoTree(String what, CoverTrees x) {
         checks.noState(what + ": count(0, 0)", () -> x.count(0, 0));
         checks.noState(what + ": node(0, 0)", () -> x.node(0, 0));
@@ -34,15 +25,15 @@ public final class TreeEdgesTest {
         checks.sentence("Terms: node 0 is the root; its marking is the first one");
         CoverTrees x = new CoverTrees();
         checks.due("no places: explore()", 1, x.explore());
-        dueNode(x, 0, NONE, NONE, 0);
+        checks.dueNode(x, 0, NONE, NONE, 0);
         CoverTrees y = Nets.withPlaces(9, 0, 1, 2, 3, 4);
         checks.due("no transitions: explore()", 1, y.explore());
-        dueNode(y, 0, NONE, NONE, 0, 9, 0, 1, 2, 3, 4);
+        checks.dueNode(y, 0, NONE, NONE, 0, 9, 0, 1, 2, 3, 4);
         checks.noIndex("node(1, 0)", () -> y.node(1, 0));
         CoverTrees z = Nets.withPlaces(0, 0);
         z.arc(1, z.transition(), 1, false);
         checks.due("none enabled: explore()", 1, z.explore());
-        dueNode(z, 0, NONE, NONE, 0, 0, 0);
+        checks.dueNode(z, 0, NONE, NONE, 0, 0, 0);
     }
 
     private static void aCopyHasTheMarkingOfANodeWithALessNumber() {
@@ -52,14 +43,14 @@ public final class TreeEdgesTest {
         Nets.move(x, 0, 1);
         Nets.move(x, 1, 0);
         checks.due("two ways to one marking: explore()", 4, x.explore());
-        dueNode(x, 0, NONE, NONE, 0, 1, 0);
-        dueNode(x, 1, 0, 0, 0, 0, 1);
-        dueNode(x, 2, 1, 2, 1, 1, 0);
-        dueNode(x, 3, 0, 1, 1, 0, 1);
+        checks.dueNode(x, 0, NONE, NONE, 0, 1, 0);
+        checks.dueNode(x, 1, 0, 0, 0, 0, 1);
+        checks.dueNode(x, 2, 1, 2, 1, 1, 0);
+        checks.dueNode(x, 3, 0, 1, 1, 0, 1);
         CoverTrees y = Nets.withPlaces(0, 0, 0, 0, 0, 1);
         y.arc(5, y.transition(), 1, false);
         checks.due("another count in the last place alone: explore()", 2, y.explore());
-        dueNode(y, 1, 0, 0, 0, 0, 0, 0, 0, 0, 0);
+        checks.dueNode(y, 1, 0, 0, 0, 0, 0, 0, 0, 0, 0);
     }
 
     private static void aCopyIsAlsoOneWithEndlessCounts() {
@@ -68,10 +59,10 @@ public final class TreeEdgesTest {
         x.arc(0, x.transition(), 4, true);
         x.arc(0, x.transition(), 1, false);
         checks.due("explore()", 4, x.explore());
-        dueNode(x, 0, NONE, NONE, 0, 0);
-        dueNode(x, 1, 0, 0, 0, ENDLESS);
-        dueNode(x, 2, 1, 0, 1, ENDLESS);
-        dueNode(x, 3, 1, 1, 1, ENDLESS);
+        checks.dueNode(x, 0, NONE, NONE, 0, 0);
+        checks.dueNode(x, 1, 0, 0, 0, ENDLESS);
+        checks.dueNode(x, 2, 1, 0, 1, ENDLESS);
+        checks.dueNode(x, 3, 1, 1, 1, ENDLESS);
     }
 
     private static void ofANodeThatIsNoCopyEachEnabledTransitionHasAChild() {
@@ -82,12 +73,12 @@ public final class TreeEdgesTest {
         }
         checks.due("8 enabled without a place: explore()", 9, x.explore());
         for (int n = 1; n < 9; n++) {
-            dueNode(x, n, 0, n - 1, 1);
+            checks.dueNode(x, n, 0, n - 1, 1);
         }
         CoverTrees y = Nets.full();
         checks.due("one of 8 enabled: explore()", 3, y.explore());
-        dueNode(y, 1, 0, 0, 0, 0, 1, 0, 0, 0, 0);
-        dueNode(y, 2, 1, 1, 1, 1, 0, 0, 0, 0, 0);
+        checks.dueNode(y, 1, 0, 0, 0, 0, 1, 0, 0, 0, 0);
+        checks.dueNode(y, 2, 1, 1, 1, 1, 0, 0, 0, 0, 0);
     }
 
     /** The second child of the root comes behind all that comes of the first. */
@@ -100,11 +91,11 @@ public final class TreeEdgesTest {
         Nets.move(x, 1, 4);
         Nets.move(x, 3, 5);
         checks.due("explore()", 6, x.explore());
-        dueNode(x, 1, 0, 0, 0, 0, 1, 0, 0, 0, 0);
-        dueNode(x, 2, 1, 2, 0, 0, 0, 0, 1, 0, 0);
-        dueNode(x, 3, 2, 4, 0, 0, 0, 0, 0, 0, 1);
-        dueNode(x, 4, 1, 3, 0, 0, 0, 0, 0, 1, 0);
-        dueNode(x, 5, 0, 1, 0, 0, 0, 1, 0, 0, 0);
+        checks.dueNode(x, 1, 0, 0, 0, 0, 1, 0, 0, 0, 0);
+        checks.dueNode(x, 2, 1, 2, 0, 0, 0, 0, 1, 0, 0);
+        checks.dueNode(x, 3, 2, 4, 0, 0, 0, 0, 0, 0, 1);
+        checks.dueNode(x, 4, 1, 3, 0, 0, 0, 0, 0, 1, 0);
+        checks.dueNode(x, 5, 0, 1, 0, 0, 0, 1, 0, 0, 0);
     }
 
     private static void endlessEnablesTakesAndGivesWithoutBeingChanged() {
@@ -114,13 +105,13 @@ public final class TreeEdgesTest {
         x.arc(0, x.transition(), 4, false);
         Nets.add(x, Nets.row(4, 0), Nets.row(0, 1));
         checks.due("explore()", 8, x.explore());
-        dueNode(x, 1, 0, 0, 0, ENDLESS, 0);
-        dueNode(x, 2, 1, 0, 1, ENDLESS, 0);
-        dueNode(x, 3, 1, 1, 1, ENDLESS, 0);
-        dueNode(x, 4, 1, 2, 0, ENDLESS, ENDLESS);
-        dueNode(x, 5, 4, 0, 1, ENDLESS, ENDLESS);
-        dueNode(x, 6, 4, 1, 1, ENDLESS, ENDLESS);
-        dueNode(x, 7, 4, 2, 1, ENDLESS, ENDLESS);
+        checks.dueNode(x, 1, 0, 0, 0, ENDLESS, 0);
+        checks.dueNode(x, 2, 1, 0, 1, ENDLESS, 0);
+        checks.dueNode(x, 3, 1, 1, 1, ENDLESS, 0);
+        checks.dueNode(x, 4, 1, 2, 0, ENDLESS, ENDLESS);
+        checks.dueNode(x, 5, 4, 0, 1, ENDLESS, ENDLESS);
+        checks.dueNode(x, 6, 4, 1, 1, ENDLESS, ENDLESS);
+        checks.dueNode(x, 7, 4, 2, 1, ENDLESS, ENDLESS);
     }
 
     private static void endlessIsMoreThanTheGreatestCount() {
@@ -140,20 +131,20 @@ public final class TreeEdgesTest {
         checks.sentence("Terms: if no count is greater than the child's, and one is less");
         CoverTrees x = Nets.ring();
         checks.due("back to the root's marking: explore()", 3, x.explore());
-        dueNode(x, 2, 1, 1, 1, 1, 0);
+        checks.dueNode(x, 2, 1, 1, 1, 1, 0);
         checks.due("bound(0)", 1, x.bound(0));
         CoverTrees y = Nets.withPlaces(1, 0);
         Nets.add(y, Nets.row(1, 0), Nets.row(0, 4));
         checks.due("one count of the root is greater: explore()", 2, y.explore());
-        dueNode(y, 1, 0, 0, 0, 0, 4);
+        checks.dueNode(y, 1, 0, 0, 0, 0, 4);
         CoverTrees z = Nets.withPlaces(2, 0, 0, 0, 0, 1);
         Nets.add(z, Nets.row(1, 0, 0, 0, 0, 0), Nets.row(1, 0, 0, 0, 0, 1));
         checks.due("one count of the root is less, the last: explore()", 3, z.explore());
-        dueNode(z, 1, 0, 0, 0, 2, 0, 0, 0, 0, ENDLESS);
+        checks.dueNode(z, 1, 0, 0, 0, 2, 0, 0, 0, 0, ENDLESS);
         CoverTrees w = Nets.withPlaces(0, 0, 0, 0, 0, 1);
         Nets.add(w, Nets.row(0, 0, 0, 0, 0, 1), Nets.row(4, 0, 0, 0, 0, 0));
         checks.due("one count of the root is greater, the last: explore()", 2, w.explore());
-        dueNode(w, 1, 0, 0, 0, 4, 0, 0, 0, 0, 0);
+        checks.dueNode(w, 1, 0, 0, 0, 4, 0, 0, 0, 0, 0);
     }
 
     private static void allCountsThatAreGreaterBecomeEndlessAndNoOther() {
@@ -161,8 +152,8 @@ public final class TreeEdgesTest {
         CoverTrees x = Nets.withPlaces(0, 9, 0, 3, 0, 0);
         Nets.add(x, Nets.row(0, 4, 0, 0, 0, 0), Nets.row(1, 4, 4, 0, 0, 1));
         checks.due("explore()", 3, x.explore());
-        dueNode(x, 1, 0, 0, 0, ENDLESS, 9, ENDLESS, 3, 0, ENDLESS);
-        dueNode(x, 2, 1, 0, 1, ENDLESS, 9, ENDLESS, 3, 0, ENDLESS);
+        checks.dueNode(x, 1, 0, 0, 0, ENDLESS, 9, ENDLESS, 3, 0, ENDLESS);
+        checks.dueNode(x, 2, 1, 0, 1, ENDLESS, 9, ENDLESS, 3, 0, ENDLESS);
     }
 
     /** The parent makes place 1 endless; only by that the root has one less, and none more. */
@@ -172,10 +163,10 @@ public final class TreeEdgesTest {
         Nets.add(x, Nets.row(0, 2), Nets.row(1, 0));
         Nets.add(x, Nets.row(1, 0), Nets.row(1, 1));
         checks.due("explore()", 5, x.explore());
-        dueNode(x, 1, 0, 0, 0, 1, 0);
-        dueNode(x, 2, 1, 1, 0, ENDLESS, ENDLESS);
-        dueNode(x, 3, 2, 0, 1, ENDLESS, ENDLESS);
-        dueNode(x, 4, 2, 1, 1, ENDLESS, ENDLESS);
+        checks.dueNode(x, 1, 0, 0, 0, 1, 0);
+        checks.dueNode(x, 2, 1, 1, 0, ENDLESS, ENDLESS);
+        checks.dueNode(x, 3, 2, 0, 1, ENDLESS, ENDLESS);
+        checks.dueNode(x, 4, 2, 1, 1, ENDLESS, ENDLESS);
     }
 
     /** What makes endless is the root, three steps up; then the parent and the root, one behind the other. */
@@ -186,18 +177,18 @@ public final class TreeEdgesTest {
         Nets.move(x, 1, 2);
         Nets.add(x, Nets.row(0, 0, 1, 0), Nets.row(1, 0, 0, 1));
         checks.due("explore()", 7, x.explore());
-        dueNode(x, 2, 1, 1, 0, 0, 0, 1, 0);
-        dueNode(x, 3, 2, 2, 0, 1, 0, 0, ENDLESS);
-        dueNode(x, 6, 5, 2, 1, 1, 0, 0, ENDLESS);
+        checks.dueNode(x, 2, 1, 1, 0, 0, 0, 1, 0);
+        checks.dueNode(x, 3, 2, 2, 0, 1, 0, 0, ENDLESS);
+        checks.dueNode(x, 6, 5, 2, 1, 1, 0, 0, ENDLESS);
         CoverTrees y = Nets.withPlaces(4, 1, 0);
         Nets.add(y, Nets.row(4, 1, 0), Nets.row(0, 0, 1));
         Nets.add(y, Nets.row(0, 0, 1), Nets.row(0, 1, 1));
         Nets.add(y, Nets.row(0, 4, 0), Nets.row(4, 0, 0));
         checks.due("the parent for one count, the root for another: explore()", 8, y.explore());
-        dueNode(y, 1, 0, 0, 0, 0, 0, 1);
-        dueNode(y, 2, 1, 1, 0, 0, ENDLESS, 1);
-        dueNode(y, 3, 2, 1, 1, 0, ENDLESS, 1);
-        dueNode(y, 4, 2, 2, 0, ENDLESS, ENDLESS, ENDLESS);
+        checks.dueNode(y, 1, 0, 0, 0, 0, 0, 1);
+        checks.dueNode(y, 2, 1, 1, 0, 0, ENDLESS, 1);
+        checks.dueNode(y, 3, 2, 1, 1, 0, ENDLESS, 1);
+        checks.dueNode(y, 4, 2, 2, 0, ENDLESS, ENDLESS, ENDLESS);
     }
 
     private static void aNodeBesideTheWayMakesNothingEndless() {
@@ -206,8 +197,8 @@ public final class TreeEdgesTest {
         Nets.move(x, 0, 1);
         Nets.add(x, Nets.row(1, 0, 0), Nets.row(0, 1, 1));
         checks.due("explore()", 3, x.explore());
-        dueNode(x, 1, 0, 0, 0, 0, 1, 0);
-        dueNode(x, 2, 0, 1, 0, 0, 1, 1);
+        checks.dueNode(x, 1, 0, 0, 0, 0, 1, 0);
+        checks.dueNode(x, 2, 0, 1, 0, 0, 1, 1);
         checks.due("growth(-1)", NONE, x.growth(-1));
     }
 
@@ -233,9 +224,9 @@ public final class TreeEdgesTest {
         for (int n = 1; n < 100; n++) {
             int step = (n - 1) % 11;
             int by = step == 0 ? 0 : step < 5 ? 1 : step == 5 ? 2 : step < 10 ? 3 : 4;
-            dueNode(x, n, n - 1, by, 0);
+            checks.dueNode(x, n, n - 1, by, 0);
         }
-        dueNode(x, 99, 98, 4, 0, 0, 1, 0, 0, 0, 0);
+        checks.dueNode(x, 99, 98, 4, 0, 0, 1, 0, 0, 0, 0);
         CoverTrees y = Nets.chain(9, 0, 0, 0, 0, 4);
         checks.tooMany("101: explore()", () -> y.explore());
         dueNoTree("101", y);
@@ -262,9 +253,9 @@ public final class TreeEdgesTest {
         checks.sentence("Terms: there may be 100 nodes (none a copy, of each 8 transitions to look at)");
         CoverTrees x = chainWithLateChildren(8, 0, 1, 3, 0, 0);
         checks.due("100: explore()", 100, x.explore());
-        dueNode(x, 95, 94, 4, 0, 0, 1, 0, 0, 0, 0);
+        checks.dueNode(x, 95, 94, 4, 0, 0, 1, 0, 0, 0, 0);
         for (int k = 0; k < 4; k++) {
-            dueNode(x, 96 + k, 41 - 11 * k, 7, 0, k, 0, 0, 0, 0, 0);
+            checks.dueNode(x, 96 + k, 41 - 11 * k, 7, 0, k, 0, 0, 0, 0, 0);
         }
         CoverTrees y = chainWithLateChildren(8, 0, 2, 2, 0, 0);
         checks.tooMany("101: explore()", () -> y.explore());
@@ -369,8 +360,8 @@ public final class TreeEdgesTest {
         checks.sentence("Promise 8: NONE for the root and others; or 1 when it is a copy and 0 when not");
         CoverTrees x = Nets.ring();
         x.explore();
-        dueNode(x, 0, NONE, NONE, 0, 1, 0);
-        dueNode(x, 2, 1, 1, 1, 1, 0);
+        checks.dueNode(x, 0, NONE, NONE, 0, 1, 0);
+        checks.dueNode(x, 2, 1, 1, 1, 1, 0);
         for (int what : new int[] {-2, -1, 3, 4, Integer.MIN_VALUE, Integer.MAX_VALUE}) {
             for (int n = 0; n < 3; n++) {
                 checks.due("node(" + n + ", " + what + ")", NONE, x.node(n, what));
@@ -537,7 +528,7 @@ public final class TreeEdgesTest {
         Nets.add(x, Nets.row(0, 1, 0, 0), Nets.row(0, 0, 0, 1));
         Nets.add(x, Nets.row(0, 0, 0, 1), Nets.row(1, 1, 1, 0));
         x.explore();
-        dueNode(x, 3, 2, 2, 0, ENDLESS, ENDLESS, ENDLESS, 0);
+        checks.dueNode(x, 3, 2, 2, 0, ENDLESS, ENDLESS, ENDLESS, 0);
         checks.due("node 1 before the root: growth(-1)", 1, x.growth(-1));
         checks.due("growth(0)", 0, x.growth(0));
         checks.due("growth(1)", 1, x.growth(1));

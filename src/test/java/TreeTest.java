@@ -4,23 +4,14 @@ public final class TreeTest {
     private static final int NONE = CoverTrees.NONE;
     private static final Checks checks = new Checks("TreeTest");
 
-    private static void dueNode(CoverTrees x, int node, int parent, int by, int copy, int... marking) {
-        checks.due("node(" + node + ", 0)", parent, x.node(node, 0));
-        checks.due("node(" + node + ", 1)", by, x.node(node, 1));
-        checks.due("node(" + node + ", 2)", copy, x.node(node, 2));
-        for (int p = 0; p < marking.length; p++) {
-            checks.due("count(" + node + ", " + p + ")", marking[p], x.count(node, p));
-        }
-    }
-
     private static void copies() {
         CoverTrees x = Nets.diamond();
         checks.due("diamond: explore()", 5, x.explore());
-        dueNode(x, 0, NONE, NONE, 0, 1, 1, 0);
-        dueNode(x, 1, 0, 0, 0, 0, 1, 1);
-        dueNode(x, 2, 1, 1, 0, 0, 0, 2);
-        dueNode(x, 3, 0, 1, 0, 1, 0, 1);
-        dueNode(x, 4, 3, 0, 1, 0, 0, 2);
+        checks.dueNode(x, 0, NONE, NONE, 0, 1, 1, 0);
+        checks.dueNode(x, 1, 0, 0, 0, 0, 1, 1);
+        checks.dueNode(x, 2, 1, 1, 0, 0, 0, 2);
+        checks.dueNode(x, 3, 0, 1, 0, 1, 0, 1);
+        checks.dueNode(x, 4, 3, 0, 1, 0, 0, 2);
         checks.due("diamond: node(0, 3)", NONE, x.node(0, 3));
         checks.due("diamond: node(4, 3)", NONE, x.node(4, 3));
         checks.due("diamond: node(4, -1)", NONE, x.node(4, -1));
@@ -41,17 +32,17 @@ public final class TreeTest {
         Nets.add(x, Nets.row(1, 0, 0, 0), Nets.row(0, 0, 1, 0));
         Nets.add(x, Nets.row(0, 1, 0, 0), Nets.row(0, 0, 0, 1));
         checks.due("down first: explore()", 4, x.explore());
-        dueNode(x, 1, 0, 0, 0, 0, 1, 0, 0);
-        dueNode(x, 2, 1, 2, 0, 0, 0, 0, 1);
-        dueNode(x, 3, 0, 1, 0, 0, 0, 1, 0);
+        checks.dueNode(x, 1, 0, 0, 0, 0, 1, 0, 0);
+        checks.dueNode(x, 2, 1, 2, 0, 0, 0, 0, 1);
+        checks.dueNode(x, 3, 0, 1, 0, 0, 0, 1, 0);
     }
 
     private static void growing() {
         CoverTrees x = Nets.growing();
         checks.due("growing: explore()", 4, x.explore());
-        dueNode(x, 1, 0, 0, 0, 0, 1, 0);
-        dueNode(x, 2, 1, 1, 0, 0, 1, ENDLESS);
-        dueNode(x, 3, 2, 1, 1, 0, 1, ENDLESS);
+        checks.dueNode(x, 1, 0, 0, 0, 0, 1, 0);
+        checks.dueNode(x, 2, 1, 1, 0, 0, 1, ENDLESS);
+        checks.dueNode(x, 3, 2, 1, 1, 0, 1, ENDLESS);
         checks.due("growing: bound(0)", 1, x.bound(0));
         checks.due("growing: bound(1)", 1, x.bound(1));
         checks.due("growing: bound(2)", ENDLESS, x.bound(2));
@@ -70,10 +61,10 @@ public final class TreeTest {
         Nets.add(x, Nets.row(2, 0), Nets.row(0, 1));
         Nets.add(x, Nets.row(0, 1), Nets.row(1, 1));
         checks.due("by then: explore()", 5, x.explore());
-        dueNode(x, 1, 0, 0, 0, 0, 1);
-        dueNode(x, 2, 1, 1, 0, ENDLESS, ENDLESS);
-        dueNode(x, 3, 2, 0, 1, ENDLESS, ENDLESS);
-        dueNode(x, 4, 2, 1, 1, ENDLESS, ENDLESS);
+        checks.dueNode(x, 1, 0, 0, 0, 0, 1);
+        checks.dueNode(x, 2, 1, 1, 0, ENDLESS, ENDLESS);
+        checks.dueNode(x, 3, 2, 0, 1, ENDLESS, ENDLESS);
+        checks.dueNode(x, 4, 2, 1, 1, ENDLESS, ENDLESS);
         checks.due("by then: growth(-1)", 1, x.growth(-1));
         checks.due("by then: growth(0)", 0, x.growth(0));
         checks.due("by then: growth(1)", 1, x.growth(1));
@@ -86,10 +77,10 @@ public final class TreeTest {
         Nets.add(x, Nets.row(1, 0, 0), Nets.row(0, 1, 0));
         Nets.add(x, Nets.row(0, 1, 0), Nets.row(1, 0, 2));
         checks.due("by the root: explore()", 5, x.explore());
-        dueNode(x, 1, 0, 0, 0, 0, 1, 0);
-        dueNode(x, 2, 1, 1, 0, 1, 0, ENDLESS);
-        dueNode(x, 3, 2, 0, 0, 0, 1, ENDLESS);
-        dueNode(x, 4, 3, 1, 1, 1, 0, ENDLESS);
+        checks.dueNode(x, 1, 0, 0, 0, 0, 1, 0);
+        checks.dueNode(x, 2, 1, 1, 0, 1, 0, ENDLESS);
+        checks.dueNode(x, 3, 2, 0, 0, 0, 1, ENDLESS);
+        checks.dueNode(x, 4, 3, 1, 1, 1, 0, ENDLESS);
         checks.due("by the root: growth(-1)", 0, x.growth(-1));
         checks.due("by the root: growth(1)", 1, x.growth(1));
         checks.due("by the root: growth(2)", -1, x.growth(2));
